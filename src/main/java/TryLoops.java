@@ -546,7 +546,8 @@ public final class TryLoops {
                 return false;
             }
             // the first rise sets the stride; each later one is compared to the one before it
-            if (step >= 2 * period && riseAt(number, step, period) != riseAt(number, step - period, period)) {
+            if (step >= 2 * period
+                    && riseAt(number, step, period) != riseAt(number, step - period, period)) {
                 return false;
             }
         }
