@@ -922,6 +922,9 @@ public final class TryLoops {
 
         /** Its object goes to the end, to be written over. */
         private void dropOldest() {
+            if (states.length == 0) {
+                return;
+            }
             State oldest = states[0];
             for (int place = 1; place < states.length; place++) {
                 states[place - 1] = states[place];

@@ -5,6 +5,7 @@ public final class HistoryTest {
         whatIsNoChange();
         errorsAndNoneRecordNothing();
         everyChangeRecords();
+        everythingIsUndone();
         everythingIsRestored();
         keepAndRestore();
         theSnapshotStays();
@@ -128,7 +129,8 @@ public final class HistoryTest {
         emptyTheHistory(x);
     }
 
-    private static void everythingIsRestored() {
+    /** Two tries, a loop of them that was played, and an open try. */
+    private static TryLoops rich() {
         TryLoops x = new TryLoops();
         Due.aTry(x, 0, 3, 1, 20, 5, 10);
         Due.aTry(x, 0, 4, 1, 30, 5, 20);
@@ -137,8 +139,12 @@ public final class HistoryTest {
         x.play(0);
         x.record();
         Due.steps(x, 2, 7);
+        return x;
+    }
+
+    private static void everythingIsUndone() {
+        TryLoops x = rich();
         int[] before = picture(x);
-        x.keep();
         x.step(0, 9);
         same(x, before, false);
         x.undo();
@@ -150,6 +156,12 @@ public final class HistoryTest {
         x.dropTry(0);
         x.undo();
         same(x, before, true);
+    }
+
+    private static void everythingIsRestored() {
+        TryLoops x = rich();
+        int[] before = picture(x);
+        x.keep();
         x.dropLoop(0);
         x.undo();
         same(x, before, true);
@@ -163,6 +175,7 @@ public final class HistoryTest {
         x.dropTry(0);
         x.dropLoop(0);
         Due.perform(x, "g5;w1;9(a1,g6+1)");
+        same(x, before, false);
         x.restore();
         same(x, before, true);
     }

@@ -27,6 +27,14 @@ public final class Due {
         is(what, true_ ? 1 : 0, 1);
     }
 
+    public static int wrongSoFar() {
+        return wrong;
+    }
+
+    public static int askedSoFar() {
+        return asked;
+    }
+
     /** Ends the test, with exit code 1 if an answer was not the one that is due. */
     public static void end() {
         System.out.println(asked + " answers asked, " + wrong + " not as due");
@@ -48,6 +56,16 @@ public final class Due {
         holds("record() begins", x.record() >= 0);
         steps(x, verbsAndNumbers);
         return x.end();
+    }
+
+    /** The list of verbs and numbers of so many equal steps. */
+    public static int[] times(int count, int verb, int number) {
+        int[] steps = new int[2 * count];
+        for (int i = 0; i < count; i++) {
+            steps[2 * i] = verb;
+            steps[2 * i + 1] = number;
+        }
+        return steps;
     }
 
     /** A new text in place of the old one. */
