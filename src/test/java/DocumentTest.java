@@ -39,6 +39,7 @@ public final class DocumentTest {
         readPromises();
         theFace();
         theConstants();
+        theGroups();
         theVerbs();
         theChanges();
         theAnswers();
@@ -104,6 +105,25 @@ public final class DocumentTest {
             Due.is(constant.group(1), TryLoops.class.getField(constant.group(1)).getInt(null), Integer.parseInt(constant.group(2)));
         }
         Due.is("how often the document tells a constant", told, 10);
+    }
+
+    /** The class has its methods under the headings that the document gives them. */
+    private static void theGroups() throws Exception {
+        String[] parts = Files.readString(Path.of("src/main/java/TryLoops.java")).split("\n    // ---- ");
+        Matcher group = Pattern.compile("\nAhead of the calls (.*) the interface says: ---- (.*)\\.\n").matcher(document);
+        int part = 1;
+        int calls = 0;
+        while (group.find()) {
+            Due.holds("there is the heading " + group.group(2), parts[part].startsWith(group.group(2) + "\n"));
+            for (String call : group.group(1).split(", ")) {
+                String name = call.replace("`", "");
+                Due.holds(name + " stands under " + group.group(2), parts[part].contains("public int " + name + "("));
+                calls++;
+            }
+            part++;
+        }
+        Due.is("groups", part - 1, 6);
+        Due.is("calls in groups", calls, METHODS.size());
     }
 
     // ---- the verbs: their numbers, their ranges, their letters
